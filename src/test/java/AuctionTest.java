@@ -2,6 +2,7 @@
 public final class AuctionTest {
     public static void main(String[] args) {
         free();
+        freeOfFriends();
         freeByHand();
         agree();
         agreeOfEqualOnes();
@@ -56,6 +57,19 @@ public final class AuctionTest {
         w.take(0, 100);
         Check.due("of equal ones", 5, w.free(0));
         Check.due("the least set", 1 + 2, w.free(1));
+    }
+
+    /** Who lets him go already is never among those to be bribed, however cheap. */
+    private static void freeOfFriends() {
+        TaxFarm x = Check.farm("town a plain means 100; company o honest coins 99; company p fair coins 99;"
+                + "harvest h grows 100 odds 1; juror j holds o price 0; juror k holds p price 0; juror l holds p price 8;"
+                + "juror m holds p price 7; juror n holds p price 9;");
+        x.bid(0, 9);
+        x.award();
+        x.year(0);
+        x.take(0, 100);
+        Check.due("k and m", 7, x.free(0));
+        Check.due("k and m", 2 + 8, x.free(1));
     }
 
     private static void freeByHand() {

@@ -47,6 +47,13 @@ public final class GatherTest {
         Check.due("coins", 100, x.gather(0, 0, 1, 0));
         Check.due("means", 10, x.gather(0, 0, 1, 1));
         Check.due("quarters", 4, x.gather(0, 0, 1, 2));
+        TaxFarm y = Check.farm("town a proud means 100; town b plain means 10; harvest g grows 100 odds 1;"
+                + "harvest h grows 50 odds 1;");
+        Check.due("coins", 100, y.gather(0, 0, 1, 0));
+        Check.due("fewer coins", 50, y.gather(0, 1, 1, 0));
+        Check.due("fewer means", 55, y.gather(0, 1, 1, 1));
+        Check.due("of another town", 5, y.gather(1, 1, 1, 0));
+        Check.due("rate by another harvest", true, y.rate(0, 0, 3) != y.rate(0, 1, 3));
     }
 
     private static void ties() {

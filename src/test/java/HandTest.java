@@ -161,6 +161,8 @@ public final class HandTest {
             Check.due("take(" + i + ", 7)", 7, x.take(i, 7));
             Check.due("means of town " + i, means[i], x.town(i, 1));
         }
+        Check.due("take(1, 16)", 16, x.take(1, 16));
+        Check.due("a quarter of 16", 95, x.town(1, 1));
         x.take(4, 5);
         x.call(4, 1);
         Check.due("a proud one loses all", 5, x.town(4, 1));
@@ -191,6 +193,10 @@ public final class HandTest {
         Check.due("call of 0", -1, x.call(0, 0));
         Check.due("call of -5", -1, x.call(0, -5));
         Check.due("call of more than the debt", -1, x.call(0, 61));
+        Check.due("call of all", 0, x.call(0, 60));
+        x.undo();
+        Check.due("call of 1", 59, x.call(0, 1));
+        x.undo();
         Check.due("call of a part", 40, x.call(0, 20));
         Check.due("means", 50, x.town(0, 1));
         Check.due("coins", 20, x.company(0, 1));
@@ -248,6 +254,14 @@ public final class HandTest {
         Check.due("too dear", false, x.bribe(1));
         Check.due("not bribed", 0, x.juror(1, 2));
         Check.due("for nothing", true, x.bribe(2));
+        x.undo();
+        x.undo();
+        Check.due("bribed no more", 0, x.juror(0, 2));
+        TaxFarm y = held("company a honest coins 30; juror j holds a price 12;", 0, 18);
+        Check.due("for all he has", true, y.bribe(0));
+        Check.due("coins", 0, y.company(0, 1));
+        y.sue();
+        Check.due("nobody is bribed", 0, y.juror(0, 2));
     }
 
     private static final String COURT = "town a plain means 100; company o honest coins 99; company f fair coins 99;"
@@ -346,7 +360,11 @@ public final class HandTest {
         Check.due("means at most when lent", 9999, x.town(0, 1));
         Check.due("debt", 4000, x.town(0, 3));
         Check.due("coins", 5998, x.company(0, 1));
-        x.take(0, 9999);
+        Check.due("take of 9999", 9000, x.take(0, 9999));
+        Check.due("coins", 15997, x.company(0, 1));
+        Check.due("lend of 10000", -1, x.lend(1, 10000));
+        Check.due("lend of 9999", 9999, x.lend(1, 9999));
+        x.undo();
         x.lend(1, 3500);
         x.close();
         x.bid(0, 1);

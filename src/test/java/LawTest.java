@@ -34,6 +34,9 @@ public final class LawTest {
         gives(0, "3 = 2");
         gives(1, "1 + 1 < 1 * 3");
         gives(1, "5 and 7");
+        gives(1, "1 and 1");
+        gives(1, "1 or 0");
+        gives(0, "0 and 1");
         gives(0, "5 and 0");
         gives(1, "0 or 7");
         gives(0, "0 or 0");
@@ -55,6 +58,8 @@ public final class LawTest {
         gives(1, "9999 * 9999 * 22 < 0");
         gives(6, "( ( ( ( 1 + 1 ) + 1 ) + 1 ) + 1 ) + 1");
         gives(6, "1 + ( 1 + ( 1 + ( 1 + ( 1 + 1 ) ) ) )");
+        gives(33, "0+30+3*(0 or 1<1+2*(0 or 1<1+2*(0 or 1<1+2*(0 or 1<1+2*3))))");
+        gives(30, "0+30+3*(0 or 1<1+2*(0 or 1<1+2*(0 or 1<1+2*(0 or 9<1+2*3))))");
         gives(48, "2*(3+4*(1+1*(1+1*(2-1)))-0*2)+18");
     }
 

@@ -11,6 +11,8 @@ public final class LustraTest {
         "town a port means 30; company o honest coins 300;",
         "town a port means 30; harvest g grows 0 odds 1;",
         "",
+        "town a plain means 300; town b proud means 90; company f fair coins 999; company o honest coins 900;"
+            + "harvest g grows 200 odds 2; harvest m grows 90 odds 3; harvest d grows 10 odds 1; harvest e grows 50 odds 4;",
     };
     private static final int[] ODDS = {2, 5};
 
@@ -118,6 +120,7 @@ public final class LustraTest {
         switch (text) {
             case 0: return ODDS;
             case 1: return new int[] {9};
+            case 7: return new int[] {2, 3, 1, 4};
             case 2:
             case 3:
             case 5: return new int[] {1};

@@ -138,6 +138,16 @@ public final class OutlookTest {
         Check.due("the first town that parts them", 1, y.next());
         y.tale(0, 3);
         Check.due("the first company's sets alone", -1, y.next());
+        TaxFarm v = Check.farm("town a plain means 99; town b plain means 98; company o honest coins 9;"
+                + "harvest g grows 100 odds 1; harvest h grows 95 odds 1;");
+        v.tale(0, v.worth(3));
+        Check.due("worth alike", v.worth(1), v.worth(2));
+        Check.due("one more and no two", 0, v.next());
+        TaxFarm u = Check.farm("town a plain means 98; company o honest coins 9; harvest g grows 100 odds 1;"
+                + "harvest h grows 95 odds 1;");
+        u.tale(0, u.worth(3));
+        Check.due("three sets", 3, u.knew(0, 0));
+        Check.due("one more is too little", -1, u.next());
         TaxFarm w = Check.farm("town a plain means 50; company o honest coins 9;"
                 + "harvest g grows 100 odds 1; harvest h grows 100 odds 1;");
         w.tale(0, 5);

@@ -90,6 +90,12 @@ public final class PastTest {
         Check.due("means", 140, x.judged(2));
         Check.due("nothing", 0, x.past());
         Check.due("no lines", 0, x.count(9));
+        String[] refused = {"bid o 100;", "award;", "year h;", "take a 1;", "lend a 1;", "call a 1;", "spare a;",
+            "bribe j;", "sue;", "close;"};
+        for (String line : refused) {
+            Check.due("past", 0, Check.past(x, "bid o 1; " + line + " bid o 2; " + (line.equals("award;") ? "award; award;" : "")));
+            Check.due("can't be: " + line, line.equals("award;") ? 2 : 1, x.judged(0));
+        }
     }
 
     private static void fromTheBegin() {

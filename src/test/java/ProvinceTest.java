@@ -15,7 +15,10 @@ public final class ProvinceTest {
         depth();
         leastOfFirst();
         anew();
+        nothingLeftOver();
+        usualLaws();
         stays();
+        staysByEveryFault();
         Check.end();
     }
 
@@ -93,6 +96,9 @@ public final class ProvinceTest {
         fault("town a plain means 1; company a fair coins 1;", 3, 30);
         fault("town a plain means 1; harvest a grows 1 odds 1;", 3, 30);
         fault("company c fair coins 1; juror c holds c price 1;", 3, 30);
+        fault("harvest h grows 1 odds 1; town h plain means 1;", 3, 31);
+        fault("company c fair coins 1; juror j holds c price 1; harvest j grows 1 odds 1;", 3, 57);
+        fault("company c fair coins 1; company c fair coins 1;", 3, 32);
         fault("juror j holds c price 1; company c fair coins 1;", 2, 14);
         fault("town a plain means 1; juror j holds a price 1;", 2, 36);
         fault("juror j holds j price 1;", 2, 14);
@@ -238,6 +244,107 @@ public final class ProvinceTest {
         Check.due("alone 20", 20, x.spare(0));
         Check.due("nothing told", 0, x.province());
         Check.due("no towns", 0, x.count(0));
+    }
+
+    private static final String BIG = "town a plain means 999; town b port means 999; town c rich means 999;"
+            + "town d plain means 999; town e port means 999; town f rich means 999; company g noble coins 9999;"
+            + "company h noble coins 9999; company i fair coins 9999; company j fair coins 9999; company k fair coins 9999;"
+            + "harvest l grows 200 odds 9; harvest m grows 200 odds 9; harvest n grows 200 odds 9; harvest o grows 9 odds 9;"
+            + "harvest p grows 9 odds 9; juror q holds g price 9; juror r holds g price 9; juror s holds g price 9;"
+            + "juror t holds g price 9; juror u holds g price 9; tithe 90; bar 999; alone 7; owes debt + 9;";
+
+    /** A province tells nothing of the ones ahead of it, whatever was done in them. */
+    private static void nothingLeftOver() {
+        TaxFarm x = new TaxFarm();
+        for (int i = 0; i < 3; i++) {
+            Check.due("big", 0, Check.province(x, BIG));
+            x.bid(0, 100);
+            x.award();
+            x.lend(0, 50);
+            x.year(0);
+            x.take(0, 999);
+            x.spare(1);
+            x.bribe(0);
+            x.sue();
+            x.bribe(1);
+            Check.due("big again", 0, Check.province(x, BIG));
+            for (int c = 0; c < 5; c++) {
+                x.bid(c, 50 + c);
+                x.tale(c, 1);
+            }
+        }
+        Check.due("small", 0, Check.province(x, "town a plain means 10; town b plain means 10; company c honest coins 90;"
+                + "company d honest coins 90; harvest h grows 100 odds 1; juror j holds d price 5; juror k holds d price 4;"
+                + "tithe 100;"));
+        Check.due("means", 20, x.count(8));
+        Check.due("tithe of no crop", 0, x.town(0, 6));
+        Check.due("nobody is spared", 0, x.town(1, 5));
+        Check.due("nobody is bribed", 0, x.juror(0, 2));
+        Check.due("nobody is bribed", 0, x.juror(1, 2));
+        Check.due("no bids", 0, x.company(1, 2));
+        Check.due("no bids", -2, x.award());
+        Check.due("all harvests", 1, x.secret());
+        Check.due("worth", 20, x.worth(1));
+        Check.due("no tales", 0, x.count(10));
+        int mean = x.lustra(3, 20, 2);
+        x.bid(0, 9);
+        Check.due("agree", 8, x.agree(0, 1));
+        Check.due("award", 0, x.award());
+        Check.due("year", 20, x.year(0));
+        x.take(0, 10);
+        x.undo();
+        Check.province(x, "town a plain means 10; company c honest coins 90; company d honest coins 90; tithe 0;"
+                + "harvest h grows 100 odds 1; juror j holds d price 5; juror k holds d price 4;");
+        x.bid(0, 9);
+        x.award();
+        x.year(0);
+        Check.due("no bar", 1, x.juror(0, 3));
+        x.take(0, 1);
+        Check.due("no bar", 0, x.juror(0, 3));
+        Check.due("free", 4, x.free(0));
+        Check.due("free", 2, x.free(1));
+        Check.due("sue", 0, x.sue());
+        TaxFarm y = Check.farm("town a plain means 10; town b plain means 10; company c honest coins 90;"
+                + "company d honest coins 90; harvest h grows 100 odds 1; juror j holds d price 5; juror k holds d price 4;"
+                + "tithe 100;");
+        Check.due("lustra", y.lustra(3, 20, 2), mean);
+    }
+
+    private static void usualLaws() {
+        TaxFarm x = new TaxFarm();
+        for (int i = 0; i < 3; i++) {
+            Check.due("laws", 0, Check.province(x, "alone 3; owes 5; tithe 70; bar 9;"));
+        }
+        Check.due("none", 0, Check.province(x, "town a plain means 100; company c honest coins 9; company d fair coins 9;"
+                + "juror j holds d price 0; harvest h grows 100 odds 1;"));
+        x.bid(0, 9);
+        x.award();
+        x.year(0);
+        Check.due("nothing is owed", 0, x.town(0, 3));
+        Check.due("tithe", 10, x.town(0, 6));
+        x.take(0, 11);
+        Check.due("bar 0", 0, x.juror(0, 3));
+        Check.due("alone 20", 20, x.spare(0));
+    }
+
+    /** Every fault leaves the province, wherever in a statement it lies. */
+    private static void staysByEveryFault() {
+        TaxFarm x = Check.farm("town a plain means 100; company c fair coins 50; juror j holds c price 3;");
+        String[] faulty = {"x", "town", "town b", "town b plain", "town b plain means", "town b plain means 1000",
+            "town b plain means 1", "company", "company b", "company b fair", "company b fair coins", "company b fair coins 5",
+            "harvest", "harvest b", "harvest b grows", "harvest b grows 301", "harvest b grows 1", "harvest b grows 1 odds",
+            "harvest b grows 1 odds 0", "harvest b grows 1 odds 1", "juror", "juror b", "juror b holds", "juror b holds a",
+            "tithe", "tithe 101", "tithe 5", "bar", "bar 1000", "bar 5", "alone", "alone 1", "alone (1", "alone 1+", "alone not",
+            "alone 1 <", "alone 1 and", "alone 1*", "owes", "owes (((((1", "tithe 1; tithe"};
+        for (String text : faulty) {
+            Check.due("a fault: " + text, true, Check.province(x, text) != 0);
+            Check.due("stays: " + text, 100, x.town(0, 1));
+            Check.due("stays: " + text, 3, x.juror(0, 1));
+            if (!text.endsWith(";")) {
+                Check.due("a fault: " + text + ",", true, Check.province(x, text + ",;") != 0);
+                Check.due("stays: " + text + ",", 100, x.town(0, 1));
+            }
+        }
     }
 
     private static void stays() {

@@ -75,15 +75,33 @@ public final class UndoTest {
         TaxFarm x = Check.farm(TEXT);
         x.bid(0, 100);
         x.award();
-        x.year(0);
-        x.take(0, 1);
-        x.sue();
-        x.close();
+        refusedByAll(x, 0);
+        x.bid(0, 99);
+        x.award();
+        x.bribe(0);
+        refusedByAll(x, 2);
         x.undo();
-        Check.due("refused ones can't be undone", 0, x.count(11));
+        x.undo();
         x.bid(0, 0);
         x.bid(0, 0);
         Check.due("what changes nothing can", 2, x.count(11));
+    }
+
+    private static void refusedByAll(TaxFarm x, int done) {
+        x.year(1);
+        x.take(0, 1);
+        x.lend(0, 1);
+        x.call(0, 1);
+        x.spare(2);
+        x.bribe(0);
+        x.close();
+        if (x.holder() < 0) {
+            x.sue();
+        } else {
+            x.bid(0, 0);
+            x.award();
+        }
+        Check.due("refused ones can't be undone", done, x.count(11));
     }
 
     private static void lastSixteen() {
