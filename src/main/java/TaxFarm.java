@@ -465,6 +465,9 @@ public final class TaxFarm {
         static final int SIGN = 3;
         static final int WRONG = 4;
 
+        /** Eight letters of five bits fit into a long, so that a word can be kept and compared as one. */
+        private static final long LETTER = 32;
+
         private final char[] text = new char[TAPE_LENGTH];
         int length = 0;
         private int at = 0;
@@ -516,7 +519,7 @@ public final class TaxFarm {
         private void scanWord() {
             word = 0;
             while (at < length && text[at] >= 'a' && text[at] <= 'z') {
-                word = withLetter(word, text[at]);
+                word = word * LETTER + (text[at] - 'a' + 1);
                 at++;
             }
             kind = at - place <= LONGEST_WORD ? WORD : WRONG;
@@ -529,11 +532,6 @@ public final class TaxFarm {
                 at++;
             }
             kind = at - place <= LONGEST_NUMBER ? NUMBER : WRONG;
-        }
-
-        /** Eight letters of five bits fit into a long, so that a word can be kept and compared as one. */
-        private static long withLetter(long word, char letter) {
-            return word * 32 + (letter - 'a' + 1);
         }
 
         /** Keeps the first fault alone; answers false, for the caller to answer too. */
@@ -553,7 +551,7 @@ public final class TaxFarm {
             long listed = 0;
             for (int i = 0; i < words.length(); i++) {
                 if (words.charAt(i) != ' ') {
-                    listed = withLetter(listed, words.charAt(i));
+                    listed = listed * LETTER + (words.charAt(i) - 'a' + 1);
                 } else if (listed == word) {
                     return index;
                 } else {

@@ -308,6 +308,9 @@ public final class ProvinceTest {
                 + "company d honest coins 90; harvest h grows 100 odds 1; juror j holds d price 5; juror k holds d price 4;"
                 + "tithe 100;");
         Check.due("lustra", y.lustra(3, 20, 2), mean);
+        String two = "town a plain means 90; company c honest coins 90; harvest g grows 200 odds 1; harvest h grows 10 odds 1;";
+        Check.due("two harvests", 0, Check.province(x, two));
+        Check.due("two harvests", Check.farm(two).lustra(8, 20, 2), x.lustra(8, 20, 2));
     }
 
     private static void usualLaws() {

@@ -43,6 +43,11 @@ public final class TapeTest {
         Check.due("past with a fault", 1, Check.past(x, "x"));
         Check.due("tape is empty then", 0, x.count(12));
         Check.due("tape is fed anew", 1, Check.feed(x, ";"));
+        Check.due("a fault", 1, Check.province(x, ";"));
+        Check.due("a fault", 1, Check.province(x, "9".repeat(40)));
+        Check.due("no digits of an elder text", 1 + 16 * 7, Check.province(x, "tithe 5"));
+        Check.due("a fault", 1, Check.province(x, "a".repeat(40)));
+        Check.due("no letters of an elder text", 1 + 16 * 6, Check.province(x, "town a"));
     }
 
     private static void tokens() {
