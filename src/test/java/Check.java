@@ -64,6 +64,14 @@ final class Check {
         return farm;
     }
 
+    /** A farm whose province a company holds. */
+    static TaxFarm held(String text, int company, int bid) {
+        TaxFarm farm = farm(text);
+        due("bid", true, farm.bid(company, bid));
+        due("award", company, farm.award());
+        return farm;
+    }
+
     static void end() {
         System.out.println(asked + " answers, " + wrong + " not as due");
         if (wrong != 0) {

@@ -18,13 +18,6 @@ public final class HandTest {
         Check.end();
     }
 
-    private static TaxFarm held(String text, int company, int bid) {
-        TaxFarm x = Check.farm(text);
-        Check.due("bid", true, x.bid(company, bid));
-        Check.due("award", company, x.award());
-        return x;
-    }
-
     private static void bids() {
         TaxFarm x = Check.farm("company a honest coins 50; company b straw coins 9999;");
         Check.due("bid of all coins", true, x.bid(0, 50));
@@ -41,7 +34,7 @@ public final class HandTest {
             Check.due("bid(" + i + ", 1)", false, x.bid(i, 1));
         }
         Check.due("bids are no award", -1, x.holder());
-        TaxFarm y = held("company a honest coins 50; company b fair coins 9;", 0, 3);
+        TaxFarm y = Check.held("company a honest coins 50; company b fair coins 9;", 0, 3);
         Check.due("bid when it is held", false, y.bid(1, 1));
         Check.due("bid of the holder", false, y.bid(0, 1));
     }
@@ -153,7 +146,7 @@ public final class HandTest {
     }
 
     private static void greedByKind() {
-        TaxFarm x = held("town a plain means 100; town b rich means 100; town c proud means 100; town d port means 100;"
+        TaxFarm x = Check.held("town a plain means 100; town b rich means 100; town c proud means 100; town d port means 100;"
                 + "town e proud means 10; company z honest coins 9; harvest h grows 100 odds 1; tithe 0;", 0, 9);
         x.year(0);
         int[] means = {97, 99, 93, 97};
@@ -168,7 +161,7 @@ public final class HandTest {
         Check.due("a proud one loses all", 5, x.town(4, 1));
         x.spare(4);
         Check.due("means given away", 0, x.town(4, 1));
-        TaxFarm y = held("town e proud means 10; company z honest coins 9; harvest h grows 300 odds 1; tithe 0;", 0, 9);
+        TaxFarm y = Check.held("town e proud means 10; company z honest coins 9; harvest h grows 300 odds 1; tithe 0;", 0, 9);
         y.year(0);
         Check.due("take(0, 30)", 30, y.take(0, 30));
         Check.due("0 at least", 0, y.town(0, 1));
@@ -224,16 +217,16 @@ public final class HandTest {
         Check.due("means at most", 9, x.spare(3));
         Check.due("to the holder", 99, x.company(0, 1));
         Check.due("spared already", -1, x.spare(0));
-        TaxFarm y = held("town a plain means 100; town b rich means 100; company z honest coins 9;"
+        TaxFarm y = Check.held("town a plain means 100; town b rich means 100; company z honest coins 9;"
                 + "alone 10 - wealth;", 0, 9);
         Check.due("0 at least", 0, y.spare(0));
         Check.due("spared all the same", 1, y.town(0, 5));
         Check.due("0 at least, twice", 0, y.spare(1));
-        TaxFarm w = held("town a plain means 7; town b rich means 8; company z honest coins 9;"
+        TaxFarm w = Check.held("town a plain means 7; town b rich means 8; company z honest coins 9;"
                 + "alone 9999 * 9999 * 20;", 0, 9);
         Check.due("means at most of very much", 7, w.spare(0));
         Check.due("means at most of twice very much", 8, w.spare(1));
-        TaxFarm v = held("town a plain means 7; company z honest coins 9; alone 9999 * 9999 * 22;", 0, 9);
+        TaxFarm v = Check.held("town a plain means 7; company z honest coins 9; alone 9999 * 9999 * 22;", 0, 9);
         Check.due("ints wrap", 0, v.spare(0));
     }
 
@@ -257,7 +250,7 @@ public final class HandTest {
         x.undo();
         x.undo();
         Check.due("bribed no more", 0, x.juror(0, 2));
-        TaxFarm y = held("company a honest coins 30; juror j holds a price 12;", 0, 18);
+        TaxFarm y = Check.held("company a honest coins 30; juror j holds a price 12;", 0, 18);
         Check.due("for all he has", true, y.bribe(0));
         Check.due("coins", 0, y.company(0, 1));
         y.sue();
@@ -269,7 +262,7 @@ public final class HandTest {
 
     private static void suits() {
         Check.due("sue when nobody holds it", -1, Check.farm(COURT).sue());
-        TaxFarm x = held(COURT, 1, 9);
+        TaxFarm x = Check.held(COURT, 1, 9);
         x.year(0);
         x.take(0, 30);
         Check.due("greed of twice the bar", 20, x.count(6));
@@ -287,7 +280,7 @@ public final class HandTest {
         Check.due("nobody holds it", -1, x.holder());
         Check.due("no greed", 0, x.count(6));
         Check.due("nobody to let go", -1, x.juror(0, 3));
-        TaxFarm y = held(COURT, 0, 99);
+        TaxFarm y = Check.held(COURT, 0, 99);
         y.year(0);
         y.take(0, 20);
         y.take(0, 1);
@@ -299,7 +292,7 @@ public final class HandTest {
         Check.due("no greed", 0, y.count(6));
         Check.due("nobody is bribed", 0, y.juror(2, 2));
         Check.due("pays nothing", 20, y.company(0, 1));
-        TaxFarm w = held(COURT, 1, 99);
+        TaxFarm w = Check.held(COURT, 1, 99);
         w.year(0);
         w.take(0, 80);
         w.lend(0, 75);
@@ -311,22 +304,22 @@ public final class HandTest {
     private static void suitsByCount() {
         String base = "town a plain means 100; company o honest coins 99; company p honest coins 99;"
                 + "harvest h grows 100 odds 1; tithe 0; juror j holds o price 1; juror k holds p price 1;";
-        TaxFarm x = held(base, 0, 9);
+        TaxFarm x = Check.held(base, 0, 9);
         x.year(0);
         x.take(0, 50);
         Check.due("as many let him go as do not", 1, x.sue());
-        TaxFarm y = held(base + "juror l holds p price 1;", 0, 9);
+        TaxFarm y = Check.held(base + "juror l holds p price 1;", 0, 9);
         y.year(0);
         y.take(0, 50);
         Check.due("more do not", 0, y.sue());
-        TaxFarm w = held("town a plain means 100; company o honest coins 99; harvest h grows 100 odds 1;", 0, 9);
+        TaxFarm w = Check.held("town a plain means 100; company o honest coins 99; harvest h grows 100 odds 1;", 0, 9);
         w.year(0);
         w.take(0, 50);
         Check.due("without jurors", 1, w.sue());
     }
 
     private static void closing() {
-        TaxFarm x = held("town a plain means 100; company o honest coins 99; harvest h grows 100 odds 1;"
+        TaxFarm x = Check.held("town a plain means 100; company o honest coins 99; harvest h grows 100 odds 1;"
                 + "juror j holds o price 0;", 0, 9);
         for (int i = 0; i < 5; i++) {
             Check.due("close too early", false, x.close());
@@ -347,7 +340,7 @@ public final class HandTest {
     }
 
     private static void limits() {
-        TaxFarm x = held("town a plain means 999; town p port means 999; company o honest coins 9999;"
+        TaxFarm x = Check.held("town a plain means 999; town p port means 999; company o honest coins 9999;"
                 + "harvest h grows 300 odds 1; owes debt * 3 - 1;", 0, 1);
         Check.due("crops", 2997 + 3007, x.year(0));
         Check.due("debt 0 at least", 0, x.town(0, 3));
