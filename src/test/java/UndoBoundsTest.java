@@ -87,7 +87,7 @@ public final class UndoBoundsTest {
 
     /** Deeds of all kinds, many of them refused, and undone in between, against a stack of what was seen. */
     private static void deedsOfAllKinds() {
-        for (int run = 0; run < 600; run++) {
+        for (int run = 0; run < 1000; run++) {
             TaxFarm x = Check.farm(TEXT);
             Deque<String> kept = new ArrayDeque<>();
             for (int i = 0; i < run % 15; i++) {
@@ -95,7 +95,7 @@ public final class UndoBoundsTest {
                 kept.addLast(UNSEEN);
             }
             long g = run;
-            for (int i = 0; i < 17; i++) {
+            for (int i = 0; i < 9; i++) {
                 g = (g * 1103515245L + 12345L) % (1L << 31);
                 int drawn = (int) (g / 65536);
                 if (drawn % 5 == 0) {

@@ -51,18 +51,25 @@ public final class UndoTest {
 
     private static final int STEPS = 14;
 
+    /** What is seen behind so many steps, of an object of its own: one is used for 512 calls at most. */
+    private static String seenBehind(int steps) {
+        TaxFarm x = Check.farm(TEXT);
+        for (int i = 0; i < steps; i++) {
+            act(x, i);
+        }
+        return seen(x);
+    }
+
     private static void oneByOne() {
         TaxFarm x = Check.farm(TEXT);
-        String[] before = new String[STEPS];
         for (int i = 0; i < STEPS; i++) {
-            before[i] = seen(x);
             Check.due("step " + i, true, act(x, i));
-            Check.due("changes something: " + i, false, before[i].equals(seen(x)));
+            Check.due("changes something: " + i, false, seenBehind(i).equals(seenBehind(i + 1)));
             Check.due("can be undone", i + 1, x.count(11));
         }
         for (int i = STEPS - 1; i >= 0; i--) {
             Check.due("undo", true, x.undo());
-            Check.due("as before step " + i + ": " + seen(x), true, before[i].equals(seen(x)));
+            Check.due("as before step " + i, true, seenBehind(i).equals(seen(x)));
             Check.due("can be undone", i, x.count(11));
         }
         Check.due("nothing left", false, x.undo());
