@@ -24,6 +24,7 @@ public final class OutlookBoundsTest {
         nextPartsMost();
         nextAtMost();
         nextOfTheFirst();
+        talesOfAllFive();
         nothingIsDone();
         Check.end();
     }
@@ -458,6 +459,27 @@ public final class OutlookBoundsTest {
         Check.due("the first one, of no set", -1, x.next());
         x.tale(1, 0);
         Check.due("the first one still", -1, x.next());
+    }
+
+    /** Of five COMPANIES: no TALE, then of the last to the first, each of which is to be heard. */
+    private static void talesOfAllFive() {
+        StringBuilder five = new StringBuilder("town t plain means 99; harvest h grows 100 odds 1; harvest i grows 0 odds 1; tithe 1;");
+        for (char name = 'm'; name <= 'q'; name++) {
+            five.append("company ").append(name).append(" honest coins 1;");
+        }
+        TaxFarm x = Check.farm(five.toString());
+        Check.due("no TALE", 3, x.secret());
+        Check.due("no TALE", -1, x.next());
+        for (int i = 4; i >= 0; i--) {
+            x.tale(i, 5);
+            Check.due("of no set", 0, x.secret());
+            Check.due("of no set", -1, x.next());
+            x.tale(i, 0);
+            Check.due("of all sets", 3, x.secret());
+            Check.due("of all sets", 0, x.next());
+            Check.due("knew", 3, x.knew(i, 0));
+        }
+        Check.due("all five", 5, x.count(10));
     }
 
     private static void nothingIsDone() {

@@ -17,6 +17,7 @@ public final class PastBoundsTest {
         namesComeAheadOfNumbers();
         noOtherLine();
         everyPrefix();
+        everyTokenGone();
         howManyLines();
         fortyFirst();
         anew();
@@ -124,6 +125,26 @@ public final class PastBoundsTest {
                 due(text.toString(), i == tokens.length - 1 ? 0 : 1, text.length());
             }
             due(text + ";", 1, text.length());
+        }
+    }
+
+    /** A token left out, or ; in its place, or another one twice: by whatever FAULT that is the elder PAST stays. */
+    private static void everyTokenGone() {
+        for (String line : LINES) {
+            String[] tokens = (line.replace("#", "5") + " ;").split(" ");
+            for (int i = 0; i < tokens.length; i++) {
+                for (String instead : new String[] {"", ";", tokens[i] + " " + tokens[i], "5", "x"}) {
+                    StringBuilder text = new StringBuilder("sue ; ");
+                    for (int j = 0; j < tokens.length; j++) {
+                        text.append(j == i ? instead : tokens[j]).append(' ');
+                    }
+                    TaxFarm x = Check.farm(TEXT);
+                    Check.due("past", 0, Check.past(x, "bid c 40; award; bribe k;"));
+                    boolean good = Check.past(x, text + "sue;") == 0;
+                    Check.due("lines behind: " + text, 3, x.count(9));
+                    Check.due("the elder is judged behind: " + text, good ? 0 : 40, x.judged(1));
+                }
+            }
         }
     }
 
@@ -281,6 +302,13 @@ public final class PastBoundsTest {
         judged("bid c 45; award; bribe j;", -1, 45, 110);
         judged("bid c 46; award; bribe j;", 2, 46, 110);
         judged("bid c 45; award; bribe j; bribe j;", 3, 45, 110);
+        judged("bid c 50; award; bribe j;", 2, 50, 110);
+        judged("bid c 50; award; bribe k;", -1, 50, 110);
+        judged("bid c 50; award; bribe k; bribe k;", 3, 50, 110);
+        judged("bid c 1; award; lend u 7; call t 7;", 3, 1, 117);
+        judged("bid c 1; award; lend u 7; call u 7;", -1, 1, 110);
+        judged("bid c 1; award; year h; take u 20;", -1, 1, 110 - 9);
+        judged("bid c 1; award; year h; take u 21;", 3, 1, 110);
         judged("bribe j;", 0, 0, 110);
         judged("sue;", 0, 0, 110);
         judged("bid c 1; award; sue; sue;", -1, 1, 110);

@@ -18,6 +18,7 @@ public final class ProvinceBoundsTest {
         onceEach();
         everyPrefix();
         everyTokenWrong();
+        everyTokenGone();
         parts();
         partsByPlace();
         tests();
@@ -318,6 +319,25 @@ public final class ProvinceBoundsTest {
                 text.append(j == i ? "?" : tokens[j]).append(' ');
             }
             due(text.toString(), 1, place);
+        }
+    }
+
+    /** A token left out, or ; in its place, or another one twice: whatever FAULT that is, all stays. */
+    private static void everyTokenGone() {
+        String[] tokens = WHOLE.split(" ");
+        for (int i = 0; i < tokens.length; i++) {
+            for (String instead : new String[] {"", ";", tokens[i] + " " + tokens[i], ")", "and", "5"}) {
+                StringBuilder text = new StringBuilder();
+                for (int j = 0; j < tokens.length; j++) {
+                    text.append(j == i ? instead : tokens[j]).append(' ');
+                }
+                TaxFarm x = Check.farm("town q rich means 77; company r noble coins 66; tithe 55;");
+                x.bid(0, 44);
+                String before = Look.at(x);
+                boolean good = Check.province(x, text.toString()) == 0;
+                Check.due("all stays by a FAULT: " + text, !good, before.equals(Look.at(x)));
+                Check.due("the TOWN is the same: " + text, !good, x.town(0, 1) == 77);
+            }
         }
     }
 
