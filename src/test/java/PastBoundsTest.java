@@ -119,6 +119,7 @@ public final class PastBoundsTest {
             String[] tokens = (line.replace("#", "5") + " ;").split(" ");
             for (int i = 0; i < tokens.length; i++) {
                 due(text + "?", 1, text.length());
+                cutShort(text.toString(), i == tokens.length - 1);
                 text.append(tokens[i]);
                 due(text.toString(), i == tokens.length - 1 ? 0 : 1, text.length());
                 text.append("\n ");
@@ -126,6 +127,14 @@ public final class PastBoundsTest {
             }
             due(text + ";", 1, text.length());
         }
+    }
+
+    /** A line that ends too early by a ; of its own: the elder PAST stays. */
+    private static void cutShort(String begun, boolean whole) {
+        TaxFarm x = Check.farm(TEXT);
+        Check.due("past", 0, Check.past(x, "bid c 40; award;"));
+        Check.due("past: " + begun + ";", whole ? 0 : 1 + 16 * begun.length(), Check.past(x, begun + "; sue;"));
+        Check.due("judged behind " + begun, whole ? 0 : 40, x.judged(1));
     }
 
     /** A token left out, or ; in its place, or another one twice: by whatever FAULT that is the elder PAST stays. */

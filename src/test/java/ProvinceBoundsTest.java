@@ -1,3 +1,4 @@
+import java.util.List;
 import java.util.function.Supplier;
 
 /** Promise 3 and the terms of a PROVINCE: how many there may be, from where to where, and its FAULTS. */
@@ -19,6 +20,7 @@ public final class ProvinceBoundsTest {
         everyPrefix();
         everyTokenWrong();
         everyTokenGone();
+        cutShort();
         parts();
         partsByPlace();
         tests();
@@ -337,6 +339,25 @@ public final class ProvinceBoundsTest {
                 boolean good = Check.province(x, text.toString()) == 0;
                 Check.due("all stays by a FAULT: " + text, !good, before.equals(Look.at(x)));
                 Check.due("the TOWN is the same: " + text, !good, x.town(0, 1) == 77);
+            }
+        }
+    }
+
+    /** Behind which tokens of its law alone may end: ) 2 3 crop debt 4. */
+    private static final List<Integer> WHOLE_LAWS = List.of(5, 7, 9, 12, 14, 16);
+
+    /** A statement that ends too early by a ; of its own is wrong there, and all stays. */
+    private static void cutShort() {
+        for (String statement : WHOLE.split(" ; | ;")) {
+            String[] tokens = statement.split(" ");
+            StringBuilder text = new StringBuilder("company k fair coins 2; juror l holds k price 5; ");
+            for (int i = 0; i < tokens.length - 1; i++) {
+                text.append(tokens[i].equals("c") && i == 3 ? "k" : tokens[i]).append(' ');
+                TaxFarm x = Check.farm("town q rich means 77; company r noble coins 66;");
+                int fault = Check.province(x, text + "; town z port means 1;");
+                boolean whole = tokens[0].equals("alone") && WHOLE_LAWS.contains(i);
+                Check.due(text + ";", whole ? 0 : 1 + 16 * text.length(), fault);
+                Check.due("all stays behind " + text, whole ? 1 : 77, x.town(0, 1));
             }
         }
     }
