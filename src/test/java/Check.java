@@ -5,6 +5,10 @@ final class Check {
     /** Stands for a call that throws NoSuchElementException. */
     static final long THROWS = Long.MIN_VALUE;
 
+    /** The words that are no NAMES. */
+    static final String[] RESERVED = ("town means company coins harvest grows odds juror holds price tithe bar alone owes bid award "
+            + "year take lend call spare bribe sue close plain rich proud port honest straw noble fair not and or").split(" ");
+
     private static int asked = 0;
     private static int wrong = 0;
 

@@ -51,14 +51,6 @@ public final class LustraBoundsTest {
         Check.due("without COMPANIES", 7, y.lustra(1, 50, 2));
     }
 
-    private static long drawn;
-    private static int greed;
-
-    private static int draw(int below) {
-        drawn = (drawn * 1103515245L + 12345L) % 2147483648L;
-        return (int) (drawn / 65536 % below);
-    }
-
     /** 'g becomes (g * 1103515245 + 12345) modulo 2147483648; it is g / 65536, cut, modulo m', by numbers worked out apart. */
     private static void firstDraws() {
         // SEED 0: 12345 / 65536 is 0. SEED 1: 1103527590 / 65536 is 16838. SEED 9999: 277963676 / 65536 is 4241.
@@ -74,10 +66,10 @@ public final class LustraBoundsTest {
     private static void drawsOfAHundred() {
         for (int seed = 0; seed < 10000; seed += 173) {
             TaxFarm x = Check.farm("company o honest coins 99; company p honest coins 9999; company q fair coins 100;");
-            drawn = seed;
+            ByDraws.start(seed);
             int highest = 0;
             for (int i = 0; i < 3; i++) {
-                highest = Math.max(highest, draw(100));
+                highest = Math.max(highest, ByDraws.draw(100));
             }
             Check.due("the highest of three by " + seed, highest, x.lustra(seed, 1, 0));
         }
@@ -96,8 +88,8 @@ public final class LustraBoundsTest {
             TaxFarm x = Check.held(text.toString(), 0, 1);
             boolean[] seen = new boolean[sum];
             for (int seed = 0; seed < 400; seed++) {
-                drawn = seed;
-                int rest = draw(sum);
+                ByDraws.start(seed);
+                int rest = ByDraws.draw(sum);
                 seen[rest] = true;
                 int harvest = 0;
                 int together = odds[0];
@@ -105,7 +97,7 @@ public final class LustraBoundsTest {
                     harvest++;
                     together += odds[harvest];
                 }
-                int half = draw(3) == 1 ? (10 * harvest + 10) / 2 : 0;
+                int half = ByDraws.draw(3) == 1 ? (10 * harvest + 10) / 2 : 0;
                 Check.due("greed by " + seed + " of " + text, half, x.lustra(seed, 1, 1));
                 if (seed == 200) {
                     x = Check.held(text.toString(), 0, 1);
@@ -123,9 +115,9 @@ public final class LustraBoundsTest {
     private static void drawsOfTowns() {
         for (int seed = 0; seed < 200; seed++) {
             TaxFarm x = Check.held("town a plain means 99; company o honest coins 99; harvest h grows 100 odds 1; tithe 31; alone 7;", 0, 1);
-            drawn = seed;
-            draw(1);
-            int choice = draw(3);
+            ByDraws.start(seed);
+            ByDraws.draw(1);
+            int choice = ByDraws.draw(3);
             // A tithe of 30 is no greed; half of 99 is 49, greed 19 and harm 9; 7 are given.
             Check.due("greed by " + seed, choice == 1 ? 19 : 0, x.lustra(seed, 1, 1));
             Check.due("means by " + seed, choice == 1 ? 90 : choice == 2 ? 92 : 99, x.lustra(seed, 1, 2));
@@ -137,10 +129,10 @@ public final class LustraBoundsTest {
     private static void poorCompanies() {
         for (int seed = 0; seed < 300; seed++) {
             TaxFarm x = Check.farm("company o honest coins 30; company p honest coins 0; company q honest coins 70;");
-            drawn = seed;
-            int first = draw(100);
-            draw(100);
-            int third = draw(100);
+            ByDraws.start(seed);
+            int first = ByDraws.draw(100);
+            ByDraws.draw(100);
+            int third = ByDraws.draw(100);
             int highest = Math.max(first <= 30 ? first : 0, third <= 70 ? third : 0);
             Check.due("by " + seed, highest, x.lustra(seed, 1, 0));
         }
@@ -161,10 +153,10 @@ public final class LustraBoundsTest {
     private static void withoutHarvests() {
         for (int seed = 0; seed < 50; seed++) {
             TaxFarm x = Check.farm("town a plain means 50; company o honest coins 99;");
-            drawn = seed;
-            int paid = draw(100);
+            ByDraws.start(seed);
+            int paid = ByDraws.draw(100);
             if (paid == 0) {
-                paid = draw(100);
+                paid = ByDraws.draw(100);
             }
             Check.due("paid once", paid, x.lustra(seed, 50, 0));
             Check.due("nothing is taken", 0, x.lustra(seed, 50, 1));
@@ -181,59 +173,6 @@ public final class LustraBoundsTest {
         }
     }
 
-    /** One year of LUSTRA by hand. */
-    private static void liveYear(TaxFarm x, int[] odds) {
-        if (x.holder() < 0) {
-            for (int i = 0; i < x.count(1); i++) {
-                x.bid(i, draw(100));
-            }
-            x.award();
-        }
-        if (x.holder() < 0 || odds.length == 0) {
-            return;
-        }
-        int sum = 0;
-        for (int odd : odds) {
-            sum += odd;
-        }
-        int rest = draw(sum);
-        int harvest = 0;
-        while (rest >= odds[harvest]) {
-            rest -= odds[harvest];
-            harvest++;
-        }
-        x.year(harvest);
-        for (int i = 0; i < x.count(0); i++) {
-            int choice = draw(3);
-            if (choice == 2) {
-                x.spare(i);
-            } else {
-                greed += Math.max(0, x.take(i, choice == 0 ? x.town(i, 6) : x.town(i, 2) / 2));
-            }
-        }
-        if (x.count(5) == 5) {
-            x.sue();
-            x.close();
-        }
-    }
-
-    private static void compare(TaxFarm x, int[] odds, int seed, int years) {
-        int[] told = new int[3];
-        for (int what = 0; what < 3; what++) {
-            told[what] = x.lustra(seed, years, what);
-        }
-        int before = x.count(7);
-        drawn = seed;
-        greed = 0;
-        for (int i = 0; i < years; i++) {
-            liveYear(x, odds);
-        }
-        String call = "lustra(" + seed + ", " + years + ", ";
-        Check.due(call + "0)", x.count(7) - before, told[0]);
-        Check.due(call + "1)", greed, told[1]);
-        Check.due(call + "2)", x.count(8), told[2]);
-    }
-
     /** From a holder who has had 0 to 5 YEARS: his last one is the fifth. */
     private static void lastsFiveYears() {
         for (int had = 0; had <= 5; had++) {
@@ -242,11 +181,11 @@ public final class LustraBoundsTest {
                 for (int i = 0; i < had; i++) {
                     x.year(1);
                 }
-                compare(x, ODDS, 100 * had + years, years);
+                ByDraws.compare(x, ODDS, 100 * had + years, years);
             }
         }
         for (int seed : new int[] {0, 1, 9998, 9999}) {
-            compare(Check.farm(TEXT), ODDS, seed, 11);
+            ByDraws.compare(Check.farm(TEXT), ODDS, seed, 11);
         }
     }
 
@@ -263,7 +202,7 @@ public final class LustraBoundsTest {
             Check.due("nothing comes to the state ahead of it", 0, four);
             Check.due("twice the greed, as far as he has it", true, five <= 2 * taken && (taken == 0 || five > 0));
             lost += five > 0 ? 1 : 0;
-            compare(x, new int[] {1}, seed, 7);
+            ByDraws.compare(x, new int[] {1}, seed, 7);
         }
         Check.due("some were lost", true, lost > 20);
     }
@@ -273,7 +212,7 @@ public final class LustraBoundsTest {
         TaxFarm x = Check.held("town a plain means 9; company o honest coins 999; harvest h grows 0 odds 1; alone 0;", 0, 900);
         Check.due("it has", 900, x.count(7));
         Check.due("it got nothing", 0, x.lustra(1, 5, 0));
-        compare(x, new int[] {1}, 1, 6);
+        ByDraws.compare(x, new int[] {1}, 1, 6);
     }
 
     /** '(all is as ahead then)'. */
@@ -312,7 +251,7 @@ public final class LustraBoundsTest {
 
     private static void wholeLease() {
         for (int seed = 7; seed < 10000; seed += 1111) {
-            compare(Check.farm("town a rich means 500; company f fair coins 999; company n noble coins 999; harvest g grows 90 odds 3;"
+            ByDraws.compare(Check.farm("town a rich means 500; company f fair coins 999; company n noble coins 999; harvest g grows 90 odds 3;"
                     + "harvest h grows 10 odds 7; juror j holds f price 1; juror k holds n price 1; juror l holds n price 1; bar 99;"),
                     new int[] {3, 7}, seed, 30);
         }

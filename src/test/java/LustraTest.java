@@ -16,9 +16,6 @@ public final class LustraTest {
     };
     private static final int[] ODDS = {2, 5};
 
-    private static long drawn;
-    private static int greed;
-
     public static void main(String[] args) {
         wrong();
         leavesAll();
@@ -58,64 +55,6 @@ public final class LustraTest {
         Check.due("undo", 2, x.count(11));
     }
 
-    private static int draw(int below) {
-        drawn = (drawn * 1103515245L + 12345L) % (1L << 31);
-        return (int) (drawn / 65536 % below);
-    }
-
-    /** One year by hand, of a province whose harvests have these odds. */
-    private static void liveYear(TaxFarm x, int[] odds) {
-        if (x.holder() < 0) {
-            for (int i = 0; i < x.count(1); i++) {
-                x.bid(i, draw(100));
-            }
-            x.award();
-        }
-        if (x.holder() < 0 || odds.length == 0) {
-            return;
-        }
-        int sum = 0;
-        for (int odd : odds) {
-            sum += odd;
-        }
-        int rest = draw(sum);
-        int harvest = 0;
-        while (rest >= odds[harvest]) {
-            rest -= odds[harvest];
-            harvest++;
-        }
-        x.year(harvest);
-        for (int i = 0; i < x.count(0); i++) {
-            int choice = draw(3);
-            if (choice == 2) {
-                x.spare(i);
-            } else {
-                greed += Math.max(0, x.take(i, choice == 0 ? x.town(i, 6) : x.town(i, 2) / 2));
-            }
-        }
-        if (x.count(5) == 5) {
-            x.sue();
-            x.close();
-        }
-    }
-
-    private static void compare(TaxFarm x, int[] odds, int seed, int years) {
-        int[] told = new int[3];
-        for (int what = 0; what < 3; what++) {
-            told[what] = x.lustra(seed, years, what);
-        }
-        int before = x.count(7);
-        drawn = seed;
-        greed = 0;
-        for (int i = 0; i < years; i++) {
-            liveYear(x, odds);
-        }
-        String call = "lustra(" + seed + ", " + years + ", ";
-        Check.due(call + "0)", x.count(7) - before, told[0]);
-        Check.due(call + "1)", greed, told[1]);
-        Check.due(call + "2)", x.count(8), told[2]);
-    }
-
     private static int[] oddsOf(int text) {
         switch (text) {
             case 0: return ODDS;
@@ -131,10 +70,10 @@ public final class LustraTest {
     private static void byHand() {
         for (int text = 0; text < TEXTS.length; text++) {
             for (int seed = 0; seed < 10000; seed += 499) {
-                compare(Check.farm(TEXTS[text]), oddsOf(text), seed, 1 + seed % 13);
+                ByDraws.compare(Check.farm(TEXTS[text]), oddsOf(text), seed, 1 + seed % 13);
             }
         }
-        compare(Check.farm(TEXTS[1]), oddsOf(1), 9999, 40);
+        ByDraws.compare(Check.farm(TEXTS[1]), oddsOf(1), 9999, 40);
     }
 
     private static void fromNow() {
@@ -142,14 +81,14 @@ public final class LustraTest {
             TaxFarm x = Check.farm(TEXTS[0]);
             x.bid(3, 150);
             x.bid(0, 40);
-            compare(x, ODDS, seed, 3);
+            ByDraws.compare(x, ODDS, seed, 3);
             TaxFarm y = Check.farm(TEXTS[0]);
             y.bid(0, 40);
             y.award();
             y.year(1);
             y.take(0, 30);
             y.spare(1);
-            compare(y, ODDS, seed, 7);
+            ByDraws.compare(y, ODDS, seed, 7);
         }
     }
 
@@ -164,7 +103,7 @@ public final class LustraTest {
             }
             x.take(0, x.town(0, 2) - 3);
             x.spare(1);
-            compare(x, ODDS, seed, 3);
+            ByDraws.compare(x, ODDS, seed, 3);
         }
     }
 }

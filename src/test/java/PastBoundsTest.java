@@ -75,12 +75,10 @@ public final class PastBoundsTest {
 
     /** A NAME is another WORD than these: FAULT 1, not 2. */
     private static void wordsThatAreNoNames() {
-        String words = "town means company coins harvest grows odds juror holds price tithe bar alone owes bid award year take "
-                + "lend call spare bribe sue close plain rich proud port honest straw noble fair not and or";
         for (String line : LINES) {
             String[] parts = line.split(" ");
             int place = parts[0].length() + 1;
-            for (String word : words.split(" ")) {
+            for (String word : Check.RESERVED) {
                 due(parts[0] + " " + word + ";", 1, place);
             }
             for (String word : new String[] {"5", "(", "abcdefghi", "T", "00000", "?"}) {

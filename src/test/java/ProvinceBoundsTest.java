@@ -26,6 +26,7 @@ public final class ProvinceBoundsTest {
         tests();
         leastKindOfFirstToken();
         wraps();
+        shorterLaws();
         allStays();
         allIsNew();
         emptyIsAProvince();
@@ -208,10 +209,8 @@ public final class ProvinceBoundsTest {
 
     /** 'A NAME is another WORD than ...': FAULT 1, wherever a NAME is to stand. */
     private static void reservedWords() {
-        String words = "town means company coins harvest grows odds juror holds price tithe bar alone owes bid award year take "
-                + "lend call spare bribe sue close plain rich proud port honest straw noble fair not and or";
         int count = 0;
-        for (String word : words.split(" ")) {
+        for (String word : Check.RESERVED) {
             count++;
             for (int sort = 0; sort < 4; sort++) {
                 due("company c fair coins 1;" + named(sort, word), 1, 23 + NUMBERED[sort].length() + 1);
@@ -476,6 +475,27 @@ public final class ProvinceBoundsTest {
         gives(7, power + "+" + power + "+7");
         gives(1, "0-" + most + "-1=" + power);
         gives(999, "0-" + most + "-2");
+    }
+
+    /** Nothing of a longer law is left in a shorter one that is told behind it, nor of one with a FAULT. */
+    private static void shorterLaws() {
+        String[] laws = {"7", "not 5", "not 0", "5 - 9", "3 + 4 * 2", "not not 6", "wealth < 3", "1 - 2 - 3 - 4", "(((not 9)))"};
+        int[] gives = {7, 0, 1, 0, 11, 1, 0, 0, 0};
+        for (String elder : laws) {
+            for (int i = 0; i < laws.length; i++) {
+                TaxFarm x = new TaxFarm();
+                Check.due("elder", 0, Check.province(x, "alone " + elder + "; owes " + elder + ";"));
+                Check.due("elder with a FAULT", true, Check.province(x, "alone " + elder + "; owes " + elder + " ?") != 0);
+                Check.due("elder again", 0, Check.province(x, "alone " + elder + "; owes " + elder + ";"));
+                Check.due("later", 0, Check.province(x, "town a plain means 99; company c fair coins 9; harvest h grows 0 odds 1; alone "
+                        + laws[i] + "; owes " + laws[i] + ";"));
+                x.bid(0, 1);
+                x.award();
+                x.year(0);
+                Check.due("owes " + laws[i] + " behind " + elder, gives[i], x.town(0, 3));
+                Check.due("alone " + laws[i] + " behind " + elder, gives[i], x.spare(0));
+            }
+        }
     }
 
     /** '(all stays then)': whatever FAULT it is, in whatever was done. */

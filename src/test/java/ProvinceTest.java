@@ -1,9 +1,5 @@
 /** Promise 3 (province), its faults, and what promises 5 to 7 tell of it. */
 public final class ProvinceTest {
-    private static final String[] RESERVED = ("town means company coins harvest grows odds juror holds price tithe "
-            + "bar alone owes bid award year take lend call spare bribe sue close plain rich proud port honest "
-            + "straw noble fair not and or").split(" ");
-
     public static void main(String[] args) {
         told();
         ranges();
@@ -86,7 +82,7 @@ public final class ProvinceTest {
     }
 
     private static void names() {
-        for (String word : RESERVED) {
+        for (String word : Check.RESERVED) {
             fault("town " + word + " plain means 1;", 1, 5);
         }
         for (String word : "wealth crop debt a abcdefgh".split(" ")) {
