@@ -7,7 +7,7 @@ import java.util.List;
 import java.util.Map;
 import java.util.TreeMap;
 
-/** A second TaxFarm, written from the document alone and not for speed, to compare the first one with. */
+/** A second TaxFarm, written anew by the document and not for speed, to compare the first one with. */
 final class PlainFarm {
     private StringBuilder tape = new StringBuilder();
     private PlainText told = PlainText.nothing();

@@ -2,7 +2,7 @@ import java.util.ArrayList;
 import java.util.List;
 import java.util.Random;
 
-/** Random runs of calls, answered by TaxFarm as by PlainFarm, which was written from the document alone. */
+/** Random runs of calls, answered by TaxFarm as by PlainFarm, which was written anew by the document. */
 public final class PlainTest {
     private static final String[] WORDS = ("town company harvest juror tithe bar alone owes means coins grows odds holds price plain rich "
             + "proud port honest straw noble fair not and or bid award year take lend call spare bribe sue close wealth crop debt "

@@ -7,7 +7,7 @@ import java.util.Map;
 import java.util.regex.Matcher;
 import java.util.regex.Pattern;
 
-/** A second reader of PROVINCES and PASTS, written from the document alone and not for speed. */
+/** A second reader of PROVINCES and PASTS, written anew by the document and not for speed. */
 final class PlainText {
     /** Ends the reading; kind + 16 * place. */
     static final class Fault extends RuntimeException {

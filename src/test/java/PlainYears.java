@@ -1,6 +1,6 @@
 import java.util.List;
 
-/** What is done by hand, for PlainFarm: written from the document alone. */
+/** What is done by hand, for PlainFarm: written anew by the document. */
 final class PlainYears {
     private final PlainText told;
     final int[] means;
